@@ -960,7 +960,7 @@ public final class LongStrike {
                     left--;
                 }
             }
-            return given - left;
+            return given;
         }
 
         int leastGift(int rank) {

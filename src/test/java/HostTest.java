@@ -85,13 +85,13 @@ public final class HostTest {
             T.due("not shorts", x.comes(0, 99), -13);
         }
         x.sheet(0, 1, 7);
-        int[] told = {1, 1, 4, 2079, 33};
+        int[] told = {0, 1, 4, 2079, 33};
         for (int i = 0; i < 5; i++) x.put(0, 2 + i, told[i]);
         for (int i : new int[] {-1, 3, 7, MIN, MAX, MAX - 3}) T.due("comes(0, " + i + ")", x.comes(0, i), -12);
         T.due("comes", x.comes(0, 2), 0);
-        int[] of = {1, 1, 4, 2, 7, 33};
+        int[] of = {0, 1, 4, 2, 7, 33};
         for (int what = 0; what < of.length; what++) T.due("of(0, " + what + ")", x.of(0, what), of[what]);
-        T.due("what household() refuses", x.comes(0, 1), -1);
+        T.due("what household() refuses", x.comes(0, 0), -1);
         for (int i = 1; i < 16; i++) T.due("comes", x.comes(0, 2), i);
         T.due("full", x.comes(0, 2), -2);
         x.sheet(0, 1, 4);

@@ -9,6 +9,8 @@ public final class KeptTest {
         theLatestStays();
         thingsThatAreGone();
         newOnesAreNew();
+        waterDebtsAndShips();
+        papers();
         T.end();
     }
 
@@ -207,9 +209,8 @@ public final class KeptTest {
         Checks.read(x, 1, "relief 5;");
         Checks.read(x, 2, "evict 0;");
         x.paper(0);
-        x.days(1);
-        x.evict(0);
-        x.days(6);
+        T.due("evicted", x.evict(0), 1);
+        x.days(7);
         x.again();
         x.village();
         T.due("a new road", x.road(0, 1, 1), 1);
@@ -227,5 +228,55 @@ public final class KeptTest {
         for (int what = 0; what < of.length; what++) T.due("a new household: " + what, x.of(0, what), of[what]);
         x.paper(0);
         T.due("a new paper isn't void", x.evict(0), 0);
+    }
+
+    private static void waterDebtsAndShips() {
+        LongStrike x = new LongStrike();
+        x.village();
+        x.pit(0, 5, 0, 10);
+        x.shop(0, 9);
+        x.household(0, 0, 2, 0, 30);
+        x.ship(3, 50);
+        x.ship(4, 60);
+        x.gift(true, 7);
+        Checks.read(x, 0, "ticket 7;");
+        x.press(true);
+        x.days(1);
+        int[] before = asked(x);
+        x.keep();
+        x.days(9);
+        x.press(true);
+        T.due("lost", x.pitOf(0, 2), 3);
+        T.due("owes", x.of(0, 7), 9);
+        T.due("ships have come", x.many(7), 0);
+        x.ship(12, 70);
+        x.again();
+        same("again", asked(x), before);
+        x.days(2);
+        T.due("the first ship comes again", x.many(9), 50);
+        x.days(1);
+        T.due("the second ship comes again", x.many(9), 110);
+        x.days(10);
+        T.due("the third one was never kept", x.many(9), 110);
+    }
+
+    private static void papers() {
+        LongStrike x = Checks.valley(1, 1);
+        x.household(0, 0, 1, 3000, 50);
+        x.household(0, 0, 1, 3000, 50);
+        x.paper(0);
+        x.paper(1);
+        x.days(7);
+        x.keep();
+        Checks.read(x, 2, "evict 1;");
+        T.due("evicted", x.evict(0), 1);
+        Checks.read(x, 2, "evict 0;");
+        T.due("void", x.evict(1), 2);
+        x.again();
+        T.due("not evicted", x.of(0, 11), 0);
+        T.due("its garden", x.of(0, 3), 3);
+        Checks.read(x, 2, "evict 1;");
+        T.due("not void", x.evict(1), 1);
+        T.due("evicted again", x.evict(0), 1);
     }
 }

@@ -36,6 +36,14 @@ public final class LastingTest {
         T.due("a ticket by rules alone, back or not", x.of(3, 12), 20);
         for (int h : new int[] {-1, 4, MIN, MAX}) T.due("draws(" + h + ")", x.draws(h), -1);
         T.due("nothing is drawn by asking", x.many(8), 60);
+        Checks.read(x, 0, "");
+        T.due("no ticket any more", x.draws(1), 0);
+        LongStrike w = Checks.valley(1, 1);
+        for (int i = 0; i < 3; i++) w.household(0, 0, i + 1, 9000, 50);
+        Checks.read(w, 0, "ticket 5;");
+        w.gift(true, 8);
+        int[] parts = {3, 3, 2};
+        for (int i = 0; i < 3; i++) T.due("what is left goes by numbers: " + i, w.draws(i), parts[i]);
         LongStrike y = Checks.valley(1, 1);
         for (int i = 0; i < 3; i++) y.household(0, 0, i + 1, 9000, 50);
         Checks.read(y, 0, "ticket 0 if mouths = 1; ticket 999 if mouths = 2; ticket 1;");

@@ -206,5 +206,9 @@ public final class PicketsTest {
         int[] gates = {0, -9, 3, 1, -9, -9, 2, -9};
         for (int m = 0; m < 8; m++) T.due("man " + m, x.watch(10 + m), gates[m]);
         T.due("watch(18)", x.watch(18), -1);
+        T.due("four rows, all right", x.judge(), 0);
+        T.due("the fourth row", x.row(3, 0), 6);
+        x.alterRow(3, 1, 9);
+        T.due("the fourth row isn't", x.judge(), 4);
     }
 }

@@ -105,6 +105,20 @@ public final class RulesTest {
         fault("ticket 5 if will > 1000;", 19);
         fault("ticket 5 if will>5", 18);
         fault("ticket 5 if will>5 and;", 22);
+        fault("ticket 5 if and pit=1;", 12);
+        fault("ticket 5 if or pit=1;", 12);
+        fault("ticket 5 if );", 12);
+        fault("ticket 5 if ;", 12);
+        fault("ticket 5 if will and pit=1;", 17);
+        fault("ticket 5 if will;", 16);
+        fault("ticket 5 if will> and pit=1;", 18);
+        fault("ticket 5 if will>(5);", 17);
+        fault("ticket 5 if (will)>5;", 17);
+        fault("ticket 5 if will<>5;", 17);
+        fault("ticket (5);", 7);
+        fault("ticket 5 if (will>5) (pit=1);", 21);
+        fault("ticket 5 if (will>5) not pit=1;", 21);
+        fault("ticket 5 if (will>5) 5;", 21);
         fault("ticket 5 if will>5 and", 22);
         fault("ticket 5 if will>5 and or pit=1;", 23);
         fault("ticket 5 if will>5 not pit=1;", 19);
@@ -142,6 +156,16 @@ public final class RulesTest {
         fault(" ".repeat(300).substring(0, 299) + "x", 299);
         fault("ticket " + "9".repeat(293), 7);
         fault("x".repeat(300), 0);
+        fault(";".repeat(300), 0);
+        fault("(".repeat(300), 0);
+        LongStrike often = Checks.valley(1, 1);
+        often.household(0, 0, 1, 0, 50);
+        for (int i = 0; i < 12; i++) {
+            T.due("often", Checks.read(often, 0, ors + ";"), 1);
+            T.due("it doesn't hold", often.of(0, 15), 0);
+            T.due("often", Checks.read(often, 0, "vote if not(" + ors.substring(8) + ");"), 1);
+            T.due("it holds", often.of(0, 15), 1);
+        }
         fault("ticket 5 if " + "(".repeat(288), 16);
         LongStrike x = Checks.valley(1, 1);
         x.household(0, 0, 1, 0, 50);
@@ -171,6 +195,13 @@ public final class RulesTest {
         for (int i = 0; i < told.length; i++) {
             for (int what = 0; what < 3; what++) T.due("line(2, " + i + ", " + what + ")", x.line(2, i, what), told[i][what]);
         }
+        Checks.read(x, 0, "rank 7;");
+        Checks.read(x, 1, "quorum 8;");
+        T.due("the union's", x.line(0, 0, 1), 7);
+        T.due("the county's", x.line(1, 0, 1), 8);
+        T.due("the company's", x.line(2, 0, 1), 12);
+        T.due("no more", x.line(0, 1, 1), -9);
+        Checks.read(x, 0, "");
         int[][] wrong = {{-1, 0, 0}, {3, 0, 0}, {2, -1, 0}, {2, 8, 0}, {2, 0, -1}, {2, 0, 3}, {0, 0, 0}, {MIN, 0, 0}, {2, MAX, 0},
             {2, 0, MIN}};
         for (int[] w : wrong) T.due("no such line", x.line(w[0], w[1], w[2]), -9);
@@ -197,6 +228,13 @@ public final class RulesTest {
                 cond(x, 0, facts[i] + ">" + (are[i] + d), d < 0);
             }
         }
+        cond(x, 0, "mouths<0", false);
+        cond(x, 0, "mouths=0", false);
+        cond(x, 0, "mouths>0", true);
+        cond(x, 0, "village<999", true);
+        cond(x, 0, "village=999", false);
+        cond(x, 0, "village>999", false);
+        cond(x, 0, "mouths>998", false);
         String yes = "pit=1";
         String no = "pit=0";
         cond(x, 0, yes + " or " + no, true);
@@ -205,6 +243,8 @@ public final class RulesTest {
         cond(x, 0, yes + " and " + yes, true);
         cond(x, 0, yes + " and " + no, false);
         cond(x, 0, no + " and " + yes, false);
+        cond(x, 0, no + " or " + yes + " and " + no, false);
+        cond(x, 0, no + " or " + yes + " and " + yes, true);
         cond(x, 0, "not " + no, true);
         cond(x, 0, "not not " + no, false);
         cond(x, 0, "not " + yes, false);

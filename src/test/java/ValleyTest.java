@@ -41,6 +41,10 @@ public final class ValleyTest {
         T.due("QUORUM without", x.rule(0), 50);
         T.due("SAFETY without", x.rule(1), 0);
         T.due("EVICT without", x.rule(2), 12);
+        x.village();
+        x.pit(0, 1, 1, 1);
+        x.household(0, 0, 1, 0, 1);
+        T.due("a shelf holds nothing till it is told", x.taken(0, 0), -11);
         T.due("COLD at first", x.set(0, 0), 0);
         T.due("BURN at first", x.set(1, 0), 0);
         T.due("MILES at first", x.set(2, 9), 9);
@@ -187,6 +191,10 @@ public final class ValleyTest {
         y.pit(0, 10, 4, 999);
         Checks.read(y, 2, "safety 3;");
         T.due("no safety by the company alone", y.rule(1), 0);
+        Checks.read(y, 0, "safety 2;");
+        T.due("both", y.rule(1), 2);
+        Checks.read(y, 2, "evict 3;");
+        T.due("no safety by the union alone", y.rule(1), 0);
         Checks.read(y, 1, "safety 3;");
         T.due("the county tells no safety", y.rule(1), 0);
     }
@@ -356,6 +364,11 @@ public final class ValleyTest {
         T.due("WANT", x.set(10, 0), 900);
         T.due("WANT of the other", x.set(11, 7), 50);
         T.due("WANT told", x.pitOf(1, 3), 7);
+        x.pit(0, 1, 1, 1);
+        x.pit(0, 1, 1, 1);
+        T.due("WANT of the fourth", x.set(13, 8), 50);
+        T.due("WANT of a fifth", x.set(14, 8), -1);
+        T.due("WANT told", x.pitOf(3, 3), 8);
     }
 
     private static void gifts() {
