@@ -126,6 +126,21 @@ public final class LastingTest {
         T.due("six hungry days by day 7: no ticket", y.last(0), 10);
         Checks.read(y, 0, "ticket 7 if hungry > 5;");
         T.due("six hungry days by day 7: a ticket", y.last(0), 25);
+        LongStrike w = Checks.valley(3, 2);
+        w.shop(1, 3);
+        w.shop(2, 6);
+        w.household(2, 1, 1, 990, 4);
+        w.household(1, 0, 1, 990, 4);
+        w.household(0, 1, 1, 1990, 4);
+        // 6 days on credit: 10, then 5 hungry ones; the other goes earlier: 3 days, 7, and 4 hungry ones
+        T.due("shops by their villages", w.last(0), 11);
+        Checks.read(w, 1, "relief 2 if village = 2; relief 50 if village = 0;");
+        // day 8: 12, day 13: 2, fed again on days 14 and 15: 4
+        T.due("relief by village", w.last(0), 17);
+        Checks.read(w, 1, "");
+        w.gift(true, 3);
+        Checks.read(w, 0, "ticket 3 if pit = 1 and mouths = 1; rank 1 if village = 0; rank 0;");
+        T.due("tickets by pit", w.last(0), 6 + 3 + 7);
         LongStrike z = Checks.valley(1, 1);
         z.household(0, 0, 1, 1990, 10);
         Checks.read(z, 2, "evict 0;");

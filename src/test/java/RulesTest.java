@@ -237,6 +237,8 @@ public final class RulesTest {
         cond(x, 0, "mouths>998", false);
         String yes = "pit=1";
         String no = "pit=0";
+        cond(x, 0, yes + " or mouths<0", true);
+        cond(x, 0, "mouths<0 or " + yes, true);
         cond(x, 0, yes + " or " + no, true);
         cond(x, 0, no + " or " + yes, true);
         cond(x, 0, no + " or " + no, false);
