@@ -132,28 +132,30 @@ public final class LanguageTest {
         }
     }
 
-    private static final class Run {
-        private final List<Calls.Call> calls = new ArrayList<>();
-
-        Run(int seed) {
-            Calls source = new Calls(seed);
-            calls.addAll(source.beginning());
-            while (calls.size() < 500) calls.addAll(source.more());
-            calls.addAll(Calls.questions());
-        }
+    /** An object that has lived for some 300 calls. */
+    private static LongStrike lived(int seed) throws Exception {
+        Calls source = new Calls(seed);
+        List<Calls.Call> calls = new ArrayList<>(source.beginning());
+        while (calls.size() < 300) calls.addAll(source.more());
+        LongStrike x = new LongStrike();
+        for (Calls.Call call : calls) call.on(x);
+        return x;
     }
 
-    /** Reflection makes objects of its own, so the dearest calls are counted by themselves. */
+    /** Reflection makes objects of its own, so the dearest calls are counted by themselves; an object has 512 calls. */
     private static void noObjects() throws Exception {
-        com.sun.management.ThreadMXBean bean = (com.sun.management.ThreadMXBean) java.lang.management.ManagementFactory.getThreadMXBean();
+        com.sun.management.ThreadMXBean bean =
+            (com.sun.management.ThreadMXBean) java.lang.management.ManagementFactory.getThreadMXBean();
         if (!bean.isThreadAllocatedMemorySupported()) return;
         long self = Thread.currentThread().getId();
-        LongStrike x = new LongStrike();
-        for (Calls.Call call : new Run(7).calls) call.on(x);
         long made = 0;
         for (int round = 0; round < 3; round++) {
+            LongStrike[] all = new LongStrike[10];
+            for (int i = 0; i < all.length; i++) all[i] = lived(7 + i);
             long before = bean.getThreadAllocatedBytes(self);
-            for (int i = 0; i < 50; i++) dearCalls(x);
+            for (LongStrike x : all) {
+                for (int i = 0; i < 5; i++) dearCalls(x);
+            }
             made = bean.getThreadAllocatedBytes(self) - before;
         }
         T.holds("calls make no objects (" + made + " bytes)", made < 1000);

@@ -4,7 +4,9 @@ import java.util.List;
 
 /** Random runs, always the same ones: LongStrike must answer as PlainStrike does, and no call may throw. */
 public final class ModelTest {
-    private static final int RUNS = 1500;
+    private static final int RUNS = 2000;
+    /** An object is used for 512 calls: so many of a run, and so many questions behind them, others in each run. */
+    private static final int CALLS = 320, QUESTIONS = 140;
 
     public static void main(String[] args) {
         Checks checks = new Checks("ModelTest");
@@ -22,14 +24,16 @@ public final class ModelTest {
         PlainStrike plain = new PlainStrike();
         List<Calls.Call> done = new ArrayList<>();
         List<Calls.Call> next = source.beginning();
-        while (done.size() < 500) {
+        while (done.size() < CALLS) {
             for (Calls.Call call : next) {
                 done.add(call);
                 if (!agree(checks, seed, call, x, plain, done)) return;
             }
             next = source.more();
         }
-        for (Calls.Call call : Calls.questions()) {
+        List<Calls.Call> questions = Calls.questions();
+        for (int i = 0; i < QUESTIONS; i++) {
+            Calls.Call call = questions.get(Math.floorMod(seed * QUESTIONS + i, questions.size()));
             if (!agree(checks, seed, call, x, plain, done)) return;
         }
     }
