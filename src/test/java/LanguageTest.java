@@ -89,7 +89,10 @@ public final class LanguageTest {
             List<Member> members = new ArrayList<>(List.of(type.getDeclaredMethods()));
             members.addAll(List.of(type.getDeclaredFields()));
             for (Member m : members) T.holds(m + " isn't public", !Modifier.isPublic(m.getModifiers()));
-            for (Method m : type.getDeclaredMethods()) T.holds(m + ": seven parameters", m.getParameterCount() <= 7);
+            for (Method m : type.getDeclaredMethods()) {
+                T.holds(m + ": seven parameters", m.getParameterCount() <= 7);
+                T.holds(m + " bears no name of the face", List.of(FACE).stream().noneMatch(f -> f.startsWith(m.getName() + "(")));
+            }
         }
     }
 
